@@ -314,6 +314,7 @@ public final class GridlockDesk {
     private boolean wouldBeWell(int a) {
         Bank bank = banks[a];
         long total = 0;
+        long paidOut = 0;
         // A bank sends nothing to itself and has no limit there, so b == a needs no exception.
         for (int b = 0; b < banks.length; b++) {
             long position = bank.sentWith(chosen[a], b) - banks[b].sentWith(chosen[b], a);
@@ -321,10 +322,10 @@ public final class GridlockDesk {
                 return false;
             }
             total += position;
+            // What the chosen payments add to a position, they take from the balance.
+            paidOut += position - positionOf(a, b);
         }
-        // What the chosen payments add to the total position, they take from the balance.
-        long balance = bank.balance - (total - totalPositionOf(a));
-        return balance >= -bank.creditLine && !exceeds(total, bank.totalLimit);
+        return bank.balance - paidOut >= -bank.creditLine && !exceeds(total, bank.totalLimit);
     }
 
     private int settleChosen(int fate) {

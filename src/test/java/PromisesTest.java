@@ -22,11 +22,13 @@ public final class PromisesTest {
         cancel();
         urge();
         sweepGoesOnAndOn();
+        sweepEmptiesFullQueues();
         sweepTakesHeadsBeforePairs();
         sweepTakesLeastPairFirst();
         pairKeepsCreditAndLimits();
         pairNeedsBothHeads();
         resolveGreatest();
+        resolveFullQueues();
         resolveCountsAsSent();
         resolveKeepsLimits();
         resolveTakesOnlyFirstPayments();
@@ -102,6 +104,9 @@ public final class PromisesTest {
             due.is("3: credit of no bank", x.credit(bank, 1), false);
         }
         due.is("3: line -1", x.credit(0, -1), false);
+        x.fund(0, 5);
+        due.is("3: line -1 with a balance", x.credit(0, -1), false);
+        x.fund(0, -5);
         due.is("3: line least", x.credit(0, Long.MIN_VALUE), false);
         due.is("3: line too great", x.credit(0, LINE + 1), false);
         due.is("3: line greatest", x.credit(0, LINE), true);
@@ -137,6 +142,7 @@ public final class PromisesTest {
         x.pay(0, 1, 100, 0, 9);
         due.is("4: less than the position", x.limit(0, 1, 99), false);
         due.is("4: the position", x.limit(0, 1, 100), true);
+        due.is("4: -2 against a position of -100", x.limit(1, 0, -2), false);
         due.is("4: 0 against a position of -100", x.limit(1, 0, 0), true);
         x.pay(1, 0, 100, 0, 9);
         due.is("4: up to 0", x.state(1), 1);
@@ -178,6 +184,7 @@ public final class PromisesTest {
         x.pay(0, 2, 50, 0, 9);
         due.is("5: less than the total position", x.totalLimit(0, 149), false);
         due.is("5: the total position", x.totalLimit(0, 150), true);
+        due.is("5: -2 against -100", x.totalLimit(1, -2), false);
         due.is("5: 0 against -100", x.totalLimit(1, 0), true);
         x.pay(2, 0, 20, 0, 9);
         due.is("5: what is received counts", x.totalLimit(0, 130), true);
@@ -341,6 +348,22 @@ public final class PromisesTest {
         due.is("sweep: balance 3", x.balance(3), 1);
     }
 
+    private static void sweepEmptiesFullQueues() {
+        // Six in each of four queues, and one call lets all 24 go.
+        GridlockDesk x = new GridlockDesk(4);
+        for (int i = 0; i < 6; i++) {
+            for (int bank = 0; bank < 4; bank++) {
+                x.pay(bank, (bank + 1) % 4, 10, 0, 9);
+            }
+        }
+        due.is("sweep: none yet", x.turnover(), 0);
+        x.fund(3, 10);
+        due.is("sweep: all of them", x.turnover(), 240);
+        for (int k = 0; k < 24; k++) {
+            due.is("sweep: alone", x.state(k), 1);
+        }
+    }
+
     private static void sweepTakesHeadsBeforePairs() {
         // Banks 0 and 1 would make a pair, but the head of bank 1 goes alone first, then that of 0.
         GridlockDesk x = new GridlockDesk(2);
@@ -437,6 +460,33 @@ public final class PromisesTest {
         }
         due.is("9: again", x.resolve(), 0);
         due.is("9: still there", x.waiting(1) * 10 + x.waiting(3), 11);
+    }
+
+    private static void resolveFullQueues() {
+        GridlockDesk x = new GridlockDesk(4);
+        for (int i = 0; i < 6; i++) {
+            for (int bank = 0; bank < 4; bank++) {
+                x.pay(bank, (bank + 1) % 4, 10 + i, 0, 9);
+            }
+        }
+        due.is("9: all of them", x.resolve(), 24);
+        due.is("9: all settled", x.turnover(), 4 * 75);
+        // Banks 1 to 3 would each pay out one more than they get: giving up one drags down all.
+        GridlockDesk y = new GridlockDesk(4);
+        for (int i = 0; i < 6; i++) {
+            for (int bank = 0; bank < 4; bank++) {
+                y.pay(bank, (bank + 1) % 4, 10 + bank, 0, 9);
+            }
+        }
+        due.is("9: none of them", y.resolve(), 0);
+        due.is("9: none settled", y.turnover(), 0);
+        y.credit(3, 6);
+        due.is("9: none by sweeping", y.turnover(), 0);
+        y.credit(1, 1);
+        y.credit(2, 1);
+        due.is("9: one of each", y.resolve(), 4);
+        due.is("9: five wait in each", y.waiting(0) * 1000 + y.waiting(1) * 100 + y.waiting(2) * 10 + y.waiting(3),
+                5555);
     }
 
     private static void resolveCountsAsSent() {
