@@ -1,6 +1,8 @@
 /** Counts the answers that are not the ones that are due, and prints each. */
 final class Due {
     private final String test;
+    private String sentence = "";
+    private int sentences;
     private int wrong;
     private int asked;
 
@@ -8,11 +10,21 @@ final class Due {
         this.test = test;
     }
 
+    /** The answers that the run asks for are told as those of this sentence of the document. */
+    void sentence(String words, Runnable run) {
+        int before = asked;
+        sentence = "\"" + words + "\": ";
+        run.run();
+        holds("something is asked", asked > before);
+        sentence = "";
+        sentences++;
+    }
+
     void is(String what, long got, long want) {
         asked++;
         if (got != want) {
             wrong++;
-            System.out.println(test + ": " + what + " answered " + got + ", due is " + want);
+            System.out.println(test + ": " + sentence + what + " answered " + got + ", due is " + want);
         }
     }
 
@@ -29,7 +41,8 @@ final class Due {
     }
 
     void end() {
-        System.out.println(test + ": " + asked + " answers, " + wrong + " not as due");
+        String of = sentences > 0 ? " of " + sentences + " sentences" : "";
+        System.out.println(test + ": " + asked + " answers" + of + ", " + wrong + " not as due");
         if (wrong != 0) {
             System.exit(1);
         }

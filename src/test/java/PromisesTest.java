@@ -21,12 +21,6 @@ public final class PromisesTest {
         payOrder();
         cancel();
         urge();
-        sweepGoesOnAndOn();
-        sweepEmptiesFullQueues();
-        sweepTakesHeadsBeforePairs();
-        sweepTakesLeastPairFirst();
-        pairKeepsCreditAndLimits();
-        pairNeedsBothHeads();
         resolveGreatest();
         resolveFullQueues();
         resolveCountsAsSent();
@@ -329,113 +323,6 @@ public final class PromisesTest {
         x.cancel(3);
         due.is("8: a cancelled one", x.urge(3, 3), false);
         queueIs("8: it is not queued", x, 0, 0, 2, 1);
-    }
-
-    private static void sweepGoesOnAndOn() {
-        GridlockDesk x = new GridlockDesk(4);
-        x.pay(0, 1, 10, 0, 9);
-        x.pay(1, 2, 9, 0, 9);
-        x.pay(2, 3, 8, 0, 9);
-        x.pay(2, 3, 2, 0, 9);
-        x.pay(3, 0, 7, 0, 9);
-        due.is("sweep: all wait", x.turnover(), 0);
-        x.fund(0, 10);
-        due.is("sweep: one after another", x.turnover(), 10 + 9 + 8 + 7);
-        due.is("sweep: not the second of bank 2", x.state(3), 0);
-        due.is("sweep: balance 0", x.balance(0), 7);
-        due.is("sweep: balance 1", x.balance(1), 1);
-        due.is("sweep: balance 2", x.balance(2), 1);
-        due.is("sweep: balance 3", x.balance(3), 1);
-    }
-
-    private static void sweepEmptiesFullQueues() {
-        // Six in each of four queues, and one call lets all 24 go.
-        GridlockDesk x = new GridlockDesk(4);
-        for (int i = 0; i < 6; i++) {
-            for (int bank = 0; bank < 4; bank++) {
-                x.pay(bank, (bank + 1) % 4, 10, 0, 9);
-            }
-        }
-        due.is("sweep: none yet", x.turnover(), 0);
-        x.fund(3, 10);
-        due.is("sweep: all of them", x.turnover(), 240);
-        for (int k = 0; k < 24; k++) {
-            due.is("sweep: alone", x.state(k), 1);
-        }
-    }
-
-    private static void sweepTakesHeadsBeforePairs() {
-        // Banks 0 and 1 would make a pair, but the head of bank 1 goes alone first, then that of 0.
-        GridlockDesk x = new GridlockDesk(2);
-        x.pay(0, 1, 10, 0, 9);
-        x.fund(1, 10);
-        x.pay(1, 0, 10, 0, 9);
-        due.is("sweep: both alone", x.state(0) * 10 + x.state(1), 11);
-    }
-
-    private static void sweepTakesLeastPairFirst() {
-        // Two great heads expire at once, and two pairs are ready. When banks a and b have been
-        // offset, bank a pays on to c, and what waits at c and d then goes alone.
-        int[][] rows = {{0, 1, 2, 3}, {0, 2, 1, 3}, {0, 3, 1, 2}};
-        for (int[] row : rows) {
-            int a = row[0];
-            int b = row[1];
-            int c = row[2];
-            int d = row[3];
-            GridlockDesk x = new GridlockDesk(4);
-            x.fund(b, 5);
-            x.pay(b, a, 100, 3, 0);
-            x.pay(d, c, 100, 3, 0);
-            x.pay(a, b, 10, 0, 9);
-            x.pay(b, a, 15, 0, 9);
-            x.pay(a, c, 5, 0, 9);
-            x.pay(c, d, 5, 0, 9);
-            x.pay(d, c, 5, 0, 9);
-            due.is("sweep: none yet", x.turnover(), 0);
-            due.is("sweep: two expire", x.tick(1), 2);
-            due.is("sweep: the least pair first", x.state(2) * 10 + x.state(3), 22);
-            due.is("sweep: then a head again", x.state(4), 1);
-            due.is("sweep: and no second pair", x.state(5) * 10 + x.state(6), 11);
-        }
-    }
-
-    private static void pairKeepsCreditAndLimits() {
-        GridlockDesk x = funded(2, 9);
-        payBothWays(x);
-        due.is("pair: one short", x.turnover(), 0);
-        x.credit(0, 1);
-        due.is("pair: with credit", x.state(0) * 10 + x.state(1), 22);
-        due.is("pair: balance 0", x.balance(0), -1);
-        due.is("pair: balance 1", x.balance(1), 10);
-
-        GridlockDesk y = funded(2, 10);
-        y.totalLimit(0, 9);
-        payBothWays(y);
-        due.is("pair: beyond the total limit", y.turnover(), 0);
-        y.totalLimit(0, 10);
-        due.is("pair: within the total limit", y.state(0) * 10 + y.state(1), 22);
-
-        GridlockDesk z = funded(2, 10);
-        z.limit(0, 1, 9);
-        payBothWays(z);
-        due.is("pair: beyond the limit", z.turnover(), 0);
-        z.limit(0, 1, 10);
-        due.is("pair: within the limit", z.state(0) * 10 + z.state(1), 22);
-    }
-
-    private static void payBothWays(GridlockDesk x) {
-        x.pay(0, 1, 110, 0, 9);
-        x.pay(1, 0, 100, 0, 9);
-    }
-
-    private static void pairNeedsBothHeads() {
-        GridlockDesk x = new GridlockDesk(3);
-        x.pay(0, 2, 10, 0, 9);
-        x.pay(0, 1, 10, 0, 9);
-        x.pay(1, 0, 10, 0, 9);
-        due.is("pair: not behind a head", x.turnover(), 0);
-        x.urge(1, 1);
-        due.is("pair: both are heads", x.state(1) * 10 + x.state(2), 22);
     }
 
     private static void resolveGreatest() {
