@@ -246,41 +246,41 @@ public final class GridlockDesk {
     private void sweep() {
         // Each round but the last settles at least one payment, so no more rounds can be needed.
         for (int round = 0; round < MOST_QUEUED_IN_ALL; round++) {
-            if (!settleSomeHead() && !settleSomePair()) {
+            if (chooseReadyHead()) {
+                settleChosen(SETTLED_ALONE);
+            } else if (chooseReadyPair()) {
+                settleChosen(SETTLED_IN_PAIR);
+            } else {
                 return;
             }
         }
     }
 
-    private boolean settleSomeHead() {
+    private boolean chooseReadyHead() {
         for (int a = 0; a < banks.length; a++) {
-            if (banks[a].queueLength > 0 && settleHeadsIfReady(a, a, SETTLED_ALONE)) {
+            if (banks[a].queueLength > 0 && chooseHeads(a, a)) {
                 return true;
             }
         }
         return false;
     }
 
-    private boolean settleSomePair() {
+    private boolean chooseReadyPair() {
         for (int a = 0; a < banks.length; a++) {
             int b = banks[a].headGoesTo();
-            if (b > a && banks[b].headGoesTo() == a && settleHeadsIfReady(a, b, SETTLED_IN_PAIR)) {
+            if (b > a && banks[b].headGoesTo() == a && chooseHeads(a, b)) {
                 return true;
             }
         }
         return false;
     }
 
-    /** Both banks must have a head; they may be the same bank. */
-    private boolean settleHeadsIfReady(int a, int b, int fate) {
+    /** Answers whether these are ready. Both banks must have a head; they may be the same bank. */
+    private boolean chooseHeads(int a, int b) {
         Arrays.fill(chosen, 0);
         chosen[a] = 1;
         chosen[b] = 1;
-        if (firstUnwellBank() != NO_BANK) {
-            return false;
-        }
-        settleChosen(fate);
-        return true;
+        return firstUnwellBank() == NO_BANK;
     }
 
     /**
